@@ -21,7 +21,8 @@ public final class MessagesTest {
         passTellsRepeats();
         passTellsInOrder();
         passCountsRotations();
-        passGivesTokensFirst();
+        passRotatesEveryFile();
+        passGivesTokens();
         rotation();
         Check.end("MessagesTest");
     }
@@ -294,7 +295,25 @@ public final class MessagesTest {
         Check.dueLines(8, "[5 30001]", x, 1, 0);
     }
 
-    private static void passGivesTokensFirst() {
+    private static void passRotatesEveryFile() {
+        LogSpooler x = new LogSpooler();
+        for (int file = 0; file < 4; file++) {
+            x.setRule(file, 255, 7, NONE, file);
+            x.setFile(file, 1000, 3 + file, 2);
+        }
+        x.message(0, 0, 0, 0, 10);
+        Check.due(8, "pass before each age", 0, x.pass(2));
+        for (int file = 0; file < 4; file++) {
+            Check.due(8, "lines of file " + file + " before its age", 1, x.lines(file, NONE));
+            Check.due(8, "pass to its age", 1, x.pass(1));
+            Check.due(8, "lines of file " + file + " at its age", 0, x.lines(file, NONE));
+            Check.dueLines(8, "[0]", x, file, 0);
+        }
+        x.message(0, 0, 0, 1, 10);
+        Check.due(8, "pass over all four ages", 4, x.pass(100));
+    }
+
+    private static void passGivesTokens() {
         LogSpooler x = Check.allTo(0);
         for (int text = 0; text < 5; text++) {
             x.message(0, 0, 0, text, 1);

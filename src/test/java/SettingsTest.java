@@ -4,6 +4,7 @@ public final class SettingsTest {
 
     public static void main(String[] args) {
         newObject();
+        firstFileRule();
         rateBounds();
         rateAndTokens();
         fold();
@@ -47,6 +48,20 @@ public final class SettingsTest {
         LogSpooler other = new LogSpooler();
         Check.due(1, "messages of another object", 0, other.messages());
         Check.due(1, "tokens of another object", 5, other.tokens(0));
+    }
+
+    private static void firstFileRule() {
+        LogSpooler x = Check.allTo(1);
+        x.setRate(50, 1);
+        x.pass(50);
+        for (int text = 0; text < 15; text++) {
+            x.message(0, 0, 0, text, 200);
+        }
+        x.message(0, 0, 0, 15, 1);
+        Check.due(1, "size, as 1001 is too much at first", 1, x.size(1));
+        Check.due(1, "generations, as 2 are kept at first", 2, x.generations(1));
+        Check.dueLines(1, "[10 11 12 13 14]", x, 1, 0);
+        Check.dueLines(1, "[5 6 7 8 9]", x, 1, 1);
     }
 
     private static void rateBounds() {
@@ -300,6 +315,7 @@ public final class SettingsTest {
             x.message(0, 0, 0, text, 200);
         }
         Check.due(6, "size 1000 at first", 1000, x.size(1));
+        Check.due(1, "generations, as 1000 is not too much", 0, x.generations(1));
         Check.due(6, "setFile below the size", 1000, x.setFile(1, 400, 0, 2));
         Check.due(6, "lines, not rotated by setFile", 5, x.lines(1, NONE));
         x.message(0, 0, 0, 5, 1);
