@@ -98,6 +98,21 @@ final class Check {
         return x;
     }
 
+    /** The same object at time 50, each sender of it with 50 tokens, and one more in each second. */
+    static LogSpooler withTokens(LogSpooler x) {
+        x.setRate(50, 1);
+        x.pass(50);
+        return x;
+    }
+
+    /** So many messages of one length come, from senders that have 50 tokens each. */
+    static void fill(LogSpooler x, int messages, int length) {
+        for (int i = 0; i < messages; i++) {
+            int number = x.messages();
+            x.message(number / 50 % 6, 0, 0, number % 100, length);
+        }
+    }
+
     static void end(String name) {
         System.out.println(name + ": " + right + " checks right, " + wrong + " wrong");
         System.exit(wrong == 0 ? 0 : 1);
