@@ -9,10 +9,13 @@ public final class MessagesTest {
     public static void main(String[] args) {
         messageBounds();
         folding();
+        foldingBeyondTheFoldTime();
         repeatsAreToldByTheNext();
         repeatsGoWhereTheLastFits();
+        repeatsOfTheMostSevere();
         limiting();
         dropsAreTold();
+        tellingDropsTakesNoToken();
         dropsGoByTheirOwnFacility();
         limitedAfterToldRepeats();
         lineThatTurnsAFile();
@@ -20,6 +23,7 @@ public final class MessagesTest {
         passBounds();
         passTellsRepeats();
         passTellsInOrder();
+        passTellsByNumberNotByCount();
         passCountsRotations();
         passRotatesEveryFile();
         passGivesTokens();
@@ -70,6 +74,21 @@ public final class MessagesTest {
         Check.due(7, "an unrouted one is a last one too", FOLDED, unrouted.message(0, 0, 0, 0, 1));
     }
 
+    /** The fold time says when repeats are told, not for how long a message is the last one. */
+    private static void foldingBeyondTheFoldTime() {
+        LogSpooler x = Check.allTo(0);
+        x.message(0, 1, 1, 1, 10);
+        x.message(0, 1, 1, 1, 10);
+        x.pass(10);
+        x.setFold(5);
+        Check.due(7, "a repeat 10 seconds after the first, with 5 to fold", FOLDED, x.message(0, 1, 1, 1, 10));
+        Check.due(7, "repeats, until a second passes", 2, x.repeats(0));
+        x.pass(1);
+        Check.dueLines(8, "[0 10002]", x, 0, NONE);
+        x.pass(100);
+        Check.due(7, "a repeat long after the last telling", FOLDED, x.message(0, 1, 1, 1, 10));
+    }
+
     private static void repeatsAreToldByTheNext() {
         LogSpooler x = Check.allTo(3);
         x.message(4, 1, 1, 1, 10);
@@ -99,6 +118,15 @@ public final class MessagesTest {
         Check.dueLines(7, "[2]", x, 1, NONE);
         Check.due(7, "repeats without a target are told to none", 0, x.repeats(1));
         Check.dueLines(7, "[0 20001 4]", x, 0, NONE);
+    }
+
+    private static void repeatsOfTheMostSevere() {
+        LogSpooler x = new LogSpooler();
+        x.setRule(0, 1, 0, NONE, 0);
+        x.message(2, 0, 0, 0, 10);
+        x.message(2, 0, 0, 0, 10);
+        x.message(2, 7, 7, 0, 10);
+        Check.dueLines(7, "[0 30001]", x, 0, NONE);
     }
 
     private static void limiting() {
@@ -142,6 +170,18 @@ public final class MessagesTest {
         x.pass(10);
         x.message(3, 0, 0, 6, 1);
         Check.dueLines(7, "[0 40001 400003 5 6]", x, 0, NONE);
+    }
+
+    private static void tellingDropsTakesNoToken() {
+        LogSpooler x = Check.allTo(0);
+        x.setRate(1, 1);
+        x.message(3, 0, 0, 0, 1);
+        x.message(3, 0, 0, 1, 1);
+        x.setRate(5, 1);
+        x.pass(3);
+        x.message(3, 0, 0, 2, 1);
+        Check.dueLines(7, "[0 400001 2]", x, 0, NONE);
+        Check.due(7, "tokens, one of three taken by the message alone", 2, x.tokens(3));
     }
 
     private static void dropsGoByTheirOwnFacility() {
@@ -257,6 +297,25 @@ public final class MessagesTest {
         x.setFold(1);
         x.pass(1);
         Check.dueLines(8, "[0 2 4 6 8 10 50001 20001 60001 10001 30001 40001]", x, 0, NONE);
+    }
+
+    private static void passTellsByNumberNotByCount() {
+        int[][] counts = {{3, 2, 1}, {1, 2, 3}, {2, 3, 1}};
+        for (int[] count : counts) {
+            LogSpooler x = Check.allTo(0);
+            x.setFold(1);
+            int[] order = {4, 2, 1};
+            for (int i = 0; i < order.length; i++) {
+                for (int come = 0; come <= count[2 - i]; come++) {
+                    x.message(order[i], 0, 0, 0, 1);
+                }
+            }
+            x.pass(1);
+            Check.due(8, "lines", 6, x.lines(0, NONE));
+            Check.due(8, "told first, sender 1", 20000 + count[0], x.line(0, NONE, 3));
+            Check.due(8, "told second, sender 2", 30000 + count[1], x.line(0, NONE, 4));
+            Check.due(8, "told third, sender 4", 50000 + count[2], x.line(0, NONE, 5));
+        }
     }
 
     private static void passCountsRotations() {
